@@ -1,0 +1,285 @@
+/** Promises 16 to 24. What is thought is told again by nights that are walked and taken back, on several streets. */
+public final class ThoughtTest {
+    private static final int BAD = LampOrder.BAD, NONE = LampOrder.NONE;
+    private static final Due due = new Due();
+
+    public static void main(String[] args) {
+        for (int seed = 1; seed <= 12; seed++) {
+            LampOrder x = new LampOrder();
+            x.seed(seed * 77);
+            x.deal(2 + seed % 8);
+            x.rule(0, seed % 3);
+            x.nights(seed);
+            x.keep();
+            String before = Tools.picture(x);
+            behind(x);
+            round(x);
+            first(x);
+            leastLaw(x);
+            last(x);
+            oiled(x, seed);
+            due.holds("nothing changes", before.equals(Tools.picture(x)));
+        }
+        wrongBehind();
+        wrongRoundFirst();
+        wrongLeastLast();
+        lastByHand();
+        sparedByHand();
+        oiledByHand();
+        feeFine();
+        due.end();
+    }
+
+    private static void behind(LampOrder x) {
+        for (int n : new int[] {0, 1, 2, 17, 100}) {
+            int[] thought = {x.behind(n, 0), x.behind(n, 1), x.behind(n, 2), x.behind(n, 3)};
+            if (n > 0) {
+                x.nights(n);
+            }
+            for (int what = 0; what < 3; what++) {
+                due.is("16: behind(" + n + ", " + what + ")", thought[what], x.street(what));
+            }
+            due.is("16: behind(" + n + ", 3)", thought[3], x.order(0));
+            x.back();
+        }
+    }
+
+    private static String line(LampOrder x) {
+        StringBuilder s = new StringBuilder();
+        for (int i = 0; i < x.count(0); i++) {
+            s.append(x.order(i));
+        }
+        return s.toString();
+    }
+
+    private static void round(LampOrder x) {
+        String line = line(x);
+        int thought = x.round();
+        int found = NONE;
+        for (int n = 1; n <= 200 && found == NONE; n++) {
+            x.nights(1);
+            if (line(x).equals(line)) {
+                found = n;
+            }
+        }
+        due.is("17: round()", thought, found);
+        x.back();
+    }
+
+    private static void first(LampOrder x) {
+        for (int lamp = 0; lamp < x.count(0); lamp++) {
+            for (int n : new int[] {1, 4, 20}) {
+                int thought = x.first(lamp, n);
+                int found = NONE;
+                for (int poured = 0; poured < 100 && found == NONE; poured++) {
+                    x.set(lamp, 3, poured);
+                    x.nights(n);
+                    if (x.order(0) == lamp) {
+                        found = poured;
+                    }
+                    x.back();
+                }
+                due.is("18: first(" + lamp + ", " + n + ")", thought, found);
+            }
+        }
+    }
+
+    private static void leastLaw(LampOrder x) {
+        for (int n : new int[] {1, 9, 60}) {
+            int least = Integer.MAX_VALUE;
+            int best = -1;
+            for (int law = 0; law < 3; law++) {
+                x.rule(0, law);
+                x.nights(n);
+                if (x.street(0) < least) {
+                    least = x.street(0);
+                    best = law;
+                }
+                x.back();
+            }
+            due.is("19: leastLaw(" + n + ", 0)", x.leastLaw(n, 0), best);
+            due.is("19: leastLaw(" + n + ", 1)", x.leastLaw(n, 1), least);
+        }
+    }
+
+    private static void last(LampOrder x) {
+        for (int n : new int[] {1, 9, 60}) {
+            int thought = x.last(n, 0);
+            int often = x.last(n, 1);
+            int[] counts = new int[10];
+            for (int i = 0; i < n; i++) {
+                counts[x.order(x.count(0) - 1)]++;
+                x.nights(1);
+            }
+            x.back();
+            int best = 0;
+            for (int lamp = 1; lamp < 10; lamp++) {
+                best = counts[lamp] > counts[best] ? lamp : best;
+            }
+            due.is("21: last(" + n + ", 0)", thought, best);
+            due.is("21: last(" + n + ", 1)", often, counts[best]);
+        }
+    }
+
+    private static void oiled(LampOrder x, int seed) {
+        int[] row = {200 + seed * 10, 0, 150, 400 - seed, NONE, 77};
+        x.sheet(0, 1, row.length);
+        for (int k = 0; k < row.length; k++) {
+            x.mark(0, k, row[k]);
+        }
+        for (int lamp = 0; lamp < x.count(0); lamp++) {
+            int least = Integer.MAX_VALUE;
+            int best = -1;
+            for (int oil = 0; oil < 100; oil++) {
+                x.set(lamp, 2, oil);
+                int together = 0;
+                for (int k = 0; k < row.length; k++) {
+                    x.nights(1);
+                    together += row[k] == NONE ? 0 : Math.abs(row[k] - x.told(lamp, 4));
+                }
+                if (together < least) {
+                    least = together;
+                    best = oil;
+                }
+                x.back();
+            }
+            due.is("22: oiled(0, " + lamp + ", 0)", x.oiled(0, lamp, 0), best);
+            due.is("22: oiled(0, " + lamp + ", 1)", x.oiled(0, lamp, 1), least);
+        }
+    }
+
+    private static void wrongBehind() {
+        LampOrder x = new LampOrder();
+        due.is("16: nobody is first", x.behind(0, 3), NONE);
+        due.is("16: nobody walks", x.behind(100, 0), 0);
+        due.is("16: behind(-1, 0)", x.behind(-1, 0), BAD);
+        due.is("16: behind(101, 3)", x.behind(101, 3), BAD);
+        due.is("16: behind(0, -1)", x.behind(0, -1), BAD);
+        due.is("16: behind(0, 4)", x.behind(0, 4), BAD);
+    }
+
+    private static void wrongRoundFirst() {
+        LampOrder x = new LampOrder();
+        due.is("17: nobody", x.round(), 1);
+        x.lamp(0, 5, 5, 5);
+        due.is("17: one", x.round(), 1);
+        due.is("18: the only one", x.first(0, 1), 0);
+        due.is("18: first(0, 0)", x.first(0, 0), BAD);
+        due.is("18: first(0, 21)", x.first(0, 21), BAD);
+        due.is("18: first(1, 1)", x.first(1, 1), BAD);
+        due.is("18: first(-1, 1)", x.first(-1, 1), BAD);
+        x.lamp(5, 5, 5, 5);
+        due.is("18: the CANAL is never first", x.first(1, 20), NONE);
+        x.set(0, 4, 900);
+        due.is("17: the other way round for good", x.round(), NONE);
+        x.rule(0, 1);
+        due.is("18: the last out is a CANAL", x.first(1, 1), 0);
+    }
+
+    private static void wrongLeastLast() {
+        LampOrder x = new LampOrder();
+        due.is("19: nobody, the law", x.leastLaw(1, 0), 0);
+        due.is("19: nobody, WALKED", x.leastLaw(60, 1), 0);
+        due.is("20: nobody", x.spared(1, 0), NONE);
+        due.is("20: nobody", x.spared(60, 1), NONE);
+        due.is("21: nobody", x.last(1, 0), NONE);
+        due.is("21: nobody", x.last(60, 1), NONE);
+        for (int round = 0; round < 2; round++) {
+            for (int n : new int[] {0, 61, -5}) {
+                due.is("19: leastLaw(" + n + ", 0)", x.leastLaw(n, 0), BAD);
+                due.is("20: spared(" + n + ", 0)", x.spared(n, 0), BAD);
+                due.is("21: last(" + n + ", 0)", x.last(n, 0), BAD);
+            }
+            for (int what : new int[] {-1, 2}) {
+                due.is("19: leastLaw(1, " + what + ")", x.leastLaw(1, what), BAD);
+                due.is("20: spared(1, " + what + ")", x.spared(1, what), BAD);
+                due.is("21: last(1, " + what + ")", x.last(1, what), BAD);
+            }
+            x.lamp(0, 5, 5, 5);
+        }
+    }
+
+    private static void lastByHand() {
+        LampOrder x = new LampOrder();
+        x.lamp(5, 5, 5, 5);
+        x.lamp(0, 5, 5, 5);
+        // Tonight the LAMP is last; from then on the CANAL: one each in two nights, so the lesser number.
+        due.is("21: tonight", x.last(1, 0), 1);
+        due.is("21: of two the lesser", x.last(2, 0), 0);
+        due.is("21: once", x.last(2, 1), 1);
+        due.is("21: twice", x.last(3, 1), 2);
+    }
+
+    private static void sparedByHand() {
+        LampOrder x = new LampOrder();
+        x.lamp(0, 10, 0, 0);
+        due.is("20: the only one", x.spared(60, 0), 0);
+        due.is("20: nothing is walked", x.spared(60, 1), 0);
+        x.lamp(0, 30, 0, 0);
+        x.lamp(0, 20, 0, 0);
+        // All are dark, so THE ORDER stays 0, 1, 2: without 0 it is 31 + 11, without 1 it is 11 + 11.
+        due.is("20: one night", x.spared(1, 0), 1);
+        due.is("20: one night, WALKED", x.spared(1, 1), 22);
+        due.is("20: sixty nights", x.spared(60, 1), 60 * 22);
+        x.nights(2);
+        due.is("20: with what was walked", x.spared(3, 1), 2 * (11 + 21 + 11) + 3 * 22);
+        LampOrder alike = new LampOrder();
+        alike.lamp(0, 7, 10, 10);
+        alike.lamp(0, 7, 10, 10);
+        due.is("20: of two the least", alike.spared(5, 0), 0);
+        due.is("20: WALKED", alike.spared(5, 1), 5 * 8);
+    }
+
+    private static void oiledByHand() {
+        LampOrder x = new LampOrder();
+        x.lamp(3, 9, 5, 5);
+        due.is("22: it is MISSING", x.oiled(0, 0, 0), LampOrder.NOTHING);
+        due.is("22: what, ahead of MISSING", x.oiled(0, 0, 2), BAD);
+        x.sheet(0, 0, 0);
+        due.is("22: no places", x.oiled(0, 0, 0), 0);
+        due.is("22: no differences", x.oiled(0, 0, 1), 0);
+        x.sheet(0, 0, 1);
+        x.mark(0, 0, 214);
+        // GLAZED: LIT at 10, OIL times 10: with 20 at 210, with 21 at 220.
+        due.is("22: oil", x.oiled(0, 0, 0), 20);
+        due.is("22: differences", x.oiled(0, 0, 1), 4);
+        x.mark(0, 0, 215);
+        due.is("22: of two the least", x.oiled(0, 0, 0), 20);
+        x.mark(0, 0, 216);
+        due.is("22: the next", x.oiled(0, 0, 0), 21);
+        x.mark(0, 0, -32768);
+        due.is("22: far below", x.oiled(0, 0, 1), 32768 + 10);
+        x.sheet(1, 1, 24);
+        for (int k = 0; k < 24; k++) {
+            x.mark(1, k, 99999);
+        }
+        x.set(0, 3, 99);
+        // The first night with 59 OIL (or more) lasts to DAWN, and so do all that follow.
+        due.is("22: all far above", x.oiled(1, 0, 1), 24 * (99999 - 600));
+        due.is("22: the least that lasts", x.oiled(1, 0, 0), 59);
+        for (int wrong : new int[] {-1, 4}) {
+            due.is("22: sheet " + wrong, x.oiled(wrong, 0, 0), BAD);
+        }
+        due.is("22: lamp -1", x.oiled(0, -1, 0), BAD);
+        due.is("22: lamp 1", x.oiled(0, 1, 0), BAD);
+        due.is("22: what -1", x.oiled(0, 0, -1), BAD);
+    }
+
+    private static void feeFine() {
+        LampOrder x = new LampOrder();
+        x.lamp(0, 4, 0, 9);
+        x.lamp(0, 4, 0, 0);
+        x.nights(3);
+        due.is("23: WALKED", x.fee(), 18);
+        due.is("24: DARKS", x.fine(0), 1);
+        due.is("24: DARKS", x.fine(1), 3);
+        due.is("24: fine(2)", x.fine(2), BAD);
+        due.is("24: fine(-1)", x.fine(-1), BAD);
+        due.is("27: fee", Tools.read(x, "fee n*100+w"), 0);
+        due.is("27: fine", Tools.read(x, "fine p*100+d"), 1);
+        due.is("23: by its TEXT", x.fee(), 318);
+        due.is("24: by its TEXT", x.fine(0), 901);
+        due.is("24: by its TEXT", x.fine(1), 3);
+        due.is("24: fine(2)", x.fine(2), BAD);
+    }
+}
