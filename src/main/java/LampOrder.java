@@ -51,16 +51,9 @@ public final class LampOrder {
         }
         Lamp one = now.lamps[lamp];
         switch (what) {
-            case 0: return one.kind;
-            case 1: return one.place;
-            case 2: return one.oil;
-            case 3: return one.poured;
-            case 4: return one.ended;
-            case 5: return one.lit;
-            case 6: return one.darks;
             case 7: return one.burns(now.burnAsLamp(one));
             case 8: return one.worth();
-            default: return BAD;
+            default: return within(what, 0, 6) ? one.part(what) : BAD;
         }
     }
 
@@ -85,15 +78,15 @@ public final class LampOrder {
     }
 
     public int set(int lamp, int what, int v) {
-        if (!now.hasLamp(lamp) || !within(what, 1, 4) || !within(v, 0, mostOf(what))) {
+        if (!now.hasLamp(lamp) || !within(what, Lamp.PLACE, Lamp.ENDED) || !within(v, 0, mostOf(what))) {
             return BAD;
         }
-        int was = told(lamp, what);
         Lamp one = now.lamps[lamp];
+        int was = one.part(what);
         switch (what) {
-            case 1: one.place = v; break;
-            case 2: one.oil = v; break;
-            case 3: one.poured = v; break;
+            case Lamp.PLACE: one.place = v; break;
+            case Lamp.OIL: one.oil = v; break;
+            case Lamp.POURED: one.poured = v; break;
             default: one.ended = v; break;
         }
         return was;
@@ -166,9 +159,9 @@ public final class LampOrder {
     public int street(int what) {
         switch (what) {
             case 0: return now.walked;
-            case 1: return now.darksOfAll();
-            case 2: return now.oilOfAll();
-            case 3: return now.pouredOfAll();
+            case 1: return now.sumOf(Lamp.DARKS);
+            case 2: return now.sumOf(Lamp.OIL);
+            case 3: return now.sumOf(Lamp.POURED);
             default: return BAD;
         }
     }
@@ -183,8 +176,8 @@ public final class LampOrder {
         thought.passNights(n, NOBODY);
         switch (what) {
             case 0: return thought.walked;
-            case 1: return thought.darksOfAll();
-            case 2: return thought.oilOfAll();
+            case 1: return thought.sumOf(Lamp.DARKS);
+            case 2: return thought.sumOf(Lamp.OIL);
             default: return thought.foremost();
         }
     }
@@ -222,12 +215,14 @@ public final class LampOrder {
             return BAD;
         }
         int best = 0;
-        int least = walkedByLaw(0, n);
-        for (int law = 1; law <= 2; law++) {
-            int walked = walkedByLaw(law, n);
-            if (walked < least) {
+        int least = Integer.MAX_VALUE;
+        for (int law = 0; law <= 2; law++) {
+            thought.becomes(now);
+            thought.law = law;
+            thought.passNights(n, NOBODY);
+            if (thought.walked < least) {
                 best = law;
-                least = walked;
+                least = thought.walked;
             }
         }
         return what == 0 ? best : least;
@@ -241,12 +236,13 @@ public final class LampOrder {
             return NONE;
         }
         int best = 0;
-        int least = walkedWithout(0, n);
-        for (int lamp = 1; lamp < now.lampCount; lamp++) {
-            int walked = walkedWithout(lamp, n);
-            if (walked < least) {
+        int least = Integer.MAX_VALUE;
+        for (int lamp = 0; lamp < now.lampCount; lamp++) {
+            thought.becomes(now);
+            thought.passNights(n, lamp);
+            if (thought.walked < least) {
                 best = lamp;
-                least = walked;
+                least = thought.walked;
             }
         }
         return what == 0 ? best : least;
@@ -277,8 +273,8 @@ public final class LampOrder {
             return NOTHING;
         }
         int best = 0;
-        int least = differences(sheets[sheet], lamp, 0);
-        for (int oil = 1; oil <= 99; oil++) {
+        int least = Integer.MAX_VALUE;
+        for (int oil = 0; oil <= 99; oil++) {
             int together = differences(sheets[sheet], lamp, oil);
             if (together < least) {
                 best = oil;
@@ -457,7 +453,7 @@ public final class LampOrder {
             return NOTHING;
         }
         Slot holder = slots[slot];
-        int held = holder.thing;
+        int before = holder.thing;
         holder.thing = thing;
         if (thing == Slot.LAMP) {
             holder.lamp.becomes(now.lamps[k]);
@@ -466,7 +462,7 @@ public final class LampOrder {
         } else {
             holder.number = k;
         }
-        return held;
+        return before;
     }
 
     public int ask(int slot, int kind) {
@@ -540,7 +536,7 @@ public final class LampOrder {
                 return 1 + right;
             }
             right++;
-            if (!waitsAt(right, many, thought.endedOfAll())) {
+            if (!waitsAt(right, many, thought.sumOf(Lamp.ENDED))) {
                 return 1 + right;
             }
             right++;
@@ -593,11 +589,11 @@ public final class LampOrder {
         return within(slot, 0, SLOTS - 1);
     }
 
-    private static int mostOf(int what) {
-        switch (what) {
-            case 1: return PLACE_MOST;
-            case 2: return OIL_MOST;
-            case 3: return POURED_MOST;
+    private static int mostOf(int part) {
+        switch (part) {
+            case Lamp.PLACE: return PLACE_MOST;
+            case Lamp.OIL: return OIL_MOST;
+            case Lamp.POURED: return POURED_MOST;
             default: return MINUTE_MOST;
         }
     }
@@ -608,19 +604,6 @@ public final class LampOrder {
             case Slot.SHEET: return isSheet(k);
             default: return true;
         }
-    }
-
-    private int walkedByLaw(int law, int n) {
-        thought.becomes(now);
-        thought.law = law;
-        thought.passNights(n, NOBODY);
-        return thought.walked;
-    }
-
-    private int walkedWithout(int lamp, int n) {
-        thought.becomes(now);
-        thought.passNights(n, lamp);
-        return thought.walked;
     }
 
     private void countLasts(int n) {
@@ -655,6 +638,8 @@ public final class LampOrder {
     private static final class Lamp {
         static final int SHELTERED = 1, OPEN = 2, GLAZED = 3, LEAKY = 4, CANAL = 5, KINDS = 6;
         private static final int[] ABOVE = {-1, 0, 0, 1, 2, 0};
+        /** Parts of a LAMP, as told() numbers them. */
+        static final int PLACE = 1, OIL = 2, POURED = 3, ENDED = 4, LIT = 5, DARKS = 6;
 
         int kind;
         int place;
@@ -676,6 +661,18 @@ public final class LampOrder {
             ended = other.ended;
             lit = other.lit;
             darks = other.darks;
+        }
+
+        int part(int what) {
+            switch (what) {
+                case PLACE: return place;
+                case OIL: return oil;
+                case POURED: return poured;
+                case ENDED: return ended;
+                case LIT: return lit;
+                case DARKS: return darks;
+                default: return kind;
+            }
         }
 
         boolean isOf(int wanted) {
@@ -920,34 +917,11 @@ public final class LampOrder {
             return bits;
         }
 
-        int darksOfAll() {
+        /** A part of all LAMPS, together. */
+        int sumOf(int part) {
             int together = 0;
             for (int i = 0; i < lampCount; i++) {
-                together += lamps[i].darks;
-            }
-            return together;
-        }
-
-        int oilOfAll() {
-            int together = 0;
-            for (int i = 0; i < lampCount; i++) {
-                together += lamps[i].oil;
-            }
-            return together;
-        }
-
-        int pouredOfAll() {
-            int together = 0;
-            for (int i = 0; i < lampCount; i++) {
-                together += lamps[i].poured;
-            }
-            return together;
-        }
-
-        int endedOfAll() {
-            int together = 0;
-            for (int i = 0; i < lampCount; i++) {
-                together += lamps[i].ended;
+                together += lamps[i].part(part);
             }
             return together;
         }
@@ -990,7 +964,7 @@ public final class LampOrder {
                     }
                 } else if (step == NOT) {
                     if (top >= 1) {
-                        stack[top - 1] = bit(stack[top - 1] == 0);
+                        stack[top - 1] = stack[top - 1] == 0 ? 1 : 0;
                     }
                 } else if (top >= 2) {
                     top--;
@@ -1002,20 +976,16 @@ public final class LampOrder {
 
         private static int workedOut(int step, int a, int b) {
             switch (step) {
-                case OR: return bit(a != 0 || b != 0);
-                case AND: return bit(a != 0 && b != 0);
-                case LESS: return bit(a < b);
-                case SAME: return bit(a == b);
-                case MORE: return bit(a > b);
+                case OR: return a != 0 || b != 0 ? 1 : 0;
+                case AND: return a != 0 && b != 0 ? 1 : 0;
+                case LESS: return a < b ? 1 : 0;
+                case SAME: return a == b ? 1 : 0;
+                case MORE: return a > b ? 1 : 0;
                 case PLUS: return a + b;
                 case MINUS: return a - b;
                 case TIMES: return a * b;
                 default: return b == 0 ? 0 : a / b;
             }
-        }
-
-        private static int bit(boolean is) {
-            return is ? 1 : 0;
         }
     }
 

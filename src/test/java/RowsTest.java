@@ -115,6 +115,13 @@ public final class RowsTest {
         x.deal(4);
         due.is("42: nobody again", x.back(), 0);
         due.is("42: z", x.count(8), 1);
+        x.lamp(0, 9, 0, 0);
+        x.nights(2);
+        x.back();
+        x.lamp(0, 9, 0, 0);
+        due.is("2: LIT of a new one where one was", x.told(0, 5), 0);
+        due.is("2: DARKS of a new one where one was", x.told(0, 6), 0);
+        x.back();
         x.deal(4);
         x.rule(0, 1);
         x.rule(2, 500);

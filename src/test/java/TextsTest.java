@@ -54,6 +54,9 @@ public final class TextsTest {
         fault("burn", 4);
         fault("burn  ", 6);
         fault("  burns 1", 2);
+        fault("burna 1", 0);
+        fault("burnz 1", 0);
+        fault("curn 1", 0);
         fault("bur 1", 0);
         fault("Burn 1", 0);
         fault("7", 0);
@@ -99,6 +102,8 @@ public final class TextsTest {
         fault("fee 1\u0000", 5);
         fault("fee \u00e9", 4);
         fault("fee N", 4);
+        fault("fee na", 4);
+        fault("fee nz", 4);
         fault("fee `", 4);
         fault("fee {", 4);
         fault("fee :", 4);

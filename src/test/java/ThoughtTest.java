@@ -9,6 +9,9 @@ public final class ThoughtTest {
             x.seed(seed * 77);
             x.deal(2 + seed % 8);
             x.rule(0, seed % 3);
+            if (seed % 4 == 0) {
+                Tools.read(x, "burn o*8+s-w*w");
+            }
             x.nights(seed);
             x.keep();
             String before = Tools.picture(x);
@@ -22,6 +25,8 @@ public final class ThoughtTest {
         }
         wrongBehind();
         wrongRoundFirst();
+        roundBounds();
+        firstBounds();
         wrongLeastLast();
         lastByHand();
         sparedByHand();
@@ -176,6 +181,41 @@ public final class ThoughtTest {
         due.is("18: the last out is a CANAL", x.first(1, 1), 0);
     }
 
+    private static int roundOf(int seed, int n) {
+        LampOrder x = new LampOrder();
+        x.seed(seed);
+        x.deal(n);
+        return x.round();
+    }
+
+    /** Streets that were looked for: their order comes round behind 200 and behind 201 nights. */
+    private static void roundBounds() {
+        due.is("17: behind 200", roundOf(73784, 3), 200);
+        due.is("17: behind 201", roundOf(78820, 3), NONE);
+        LampOrder x = new LampOrder();
+        x.lamp(0, 5, 5, 5);
+        x.lamp(5, 5, 5, 5);
+        x.set(0, 4, 900);
+        due.is("17: the CANAL is ahead now", x.order(0), 1);
+        x.set(0, 4, 0);
+        due.is("17: as now, not as it was told", x.round(), 1);
+    }
+
+    /** Both are dark at first, then number 0 goes out at 1 + 10 * POURED, and number 1 at DAWN: the later one is first. */
+    private static void firstBounds() {
+        LampOrder x = new LampOrder();
+        x.rule(0, 1);
+        x.rule(2, 991);
+        x.lamp(3, 0, 0, 5);
+        x.lamp(3, 0, 0, 99);
+        due.is("18: 99 is just enough", x.first(0, 2), 99);
+        x.rule(2, 981);
+        due.is("18: 98 is just enough", x.first(0, 2), 98);
+        x.rule(2, 992);
+        due.is("18: none is", x.first(0, 2), NONE);
+        due.is("18: POURED stays", x.told(0, 3), 5);
+    }
+
     private static void wrongLeastLast() {
         LampOrder x = new LampOrder();
         due.is("19: nobody, the law", x.leastLaw(1, 0), 0);
@@ -247,6 +287,15 @@ public final class ThoughtTest {
         due.is("22: of two the least", x.oiled(0, 0, 0), 20);
         x.mark(0, 0, 216);
         due.is("22: the next", x.oiled(0, 0, 0), 21);
+        x.mark(0, 0, 20);
+        due.is("22: OIL 1", x.oiled(0, 0, 0), 1);
+        x.mark(0, 0, 9999);
+        x.rule(2, 999);
+        x.set(0, 1, 0);
+        due.is("22: no more OIL than 99", x.oiled(0, 0, 0), 99);
+        due.is("22: no more OIL than 99", x.oiled(0, 0, 1), 9999 - 991);
+        x.rule(2, 600);
+        x.set(0, 1, 9);
         x.mark(0, 0, -32768);
         due.is("22: far below", x.oiled(0, 0, 1), 32768 + 10);
         x.sheet(1, 1, 24);
