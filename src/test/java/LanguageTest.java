@@ -125,7 +125,7 @@ public final class LanguageTest {
         LampOrder x = fullStreet();
         dearest(x, 2);
         long before = threads.getCurrentThreadAllocatedBytes();
-        dearest(x, 60);
+        dearest(x, 50);
         long calls = threads.getCurrentThreadAllocatedBytes() - before;
         due.holds("room: dear calls took " + calls + " bytes", calls < 10_000);
         before = threads.getCurrentThreadAllocatedBytes();

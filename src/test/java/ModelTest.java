@@ -37,7 +37,11 @@ public final class ModelTest {
         lot = new Random(run);
     }
 
-    private int call(String name, int... args) throws Exception {
+    /** What an object answers behind its 512th call is free. */
+    private void call(String name, int... args) throws Exception {
+        if (calls >= 512) {
+            return;
+        }
         Class<?>[] types = new Class<?>[args.length];
         Object[] boxed = new Object[args.length];
         StringBuilder said = new StringBuilder(name).append('(');
@@ -57,7 +61,6 @@ public final class ModelTest {
         wrong |= got != want;
         String sort = want <= -1000000001 && want > -1000000100 ? " " + want : want < -99 ? " fault or less" : " a number";
         answered.merge(name + sort, 1, Integer::sum);
-        return got;
     }
 
     private int between(int least, int most) {

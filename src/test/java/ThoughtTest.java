@@ -1,25 +1,20 @@
-/** Promises 16 to 24. What is thought is told again by nights that are walked and taken back, on several streets. */
+/**
+ * Promises 16 to 24. What is thought is told again by nights that are walked, on several streets. An object is used for 512
+ * calls at most, so each walk is on one of its own that has come to the same place.
+ */
 public final class ThoughtTest {
     private static final int BAD = LampOrder.BAD, NONE = LampOrder.NONE;
     private static final Due due = new Due();
 
     public static void main(String[] args) {
         for (int seed = 1; seed <= 12; seed++) {
-            LampOrder x = new LampOrder();
-            x.seed(seed * 77);
-            x.deal(2 + seed % 8);
-            x.rule(0, seed % 3);
-            if (seed % 4 == 0) {
-                Tools.read(x, "burn o*8+s-w*w");
-            }
-            x.nights(seed);
-            x.keep();
+            LampOrder x = made(seed);
             String before = Tools.picture(x);
-            behind(x);
-            round(x);
-            first(x);
-            leastLaw(x);
-            last(x);
+            behind(x, seed);
+            round(x, seed);
+            first(x, seed);
+            leastLaw(x, seed);
+            last(x, seed);
             oiled(x, seed);
             due.holds("nothing changes", before.equals(Tools.picture(x)));
         }
@@ -35,17 +30,32 @@ public final class ThoughtTest {
         due.end();
     }
 
-    private static void behind(LampOrder x) {
+    private static LampOrder made(int seed) {
+        LampOrder x = new LampOrder();
+        x.seed(seed * 77);
+        x.deal(2 + seed % 8);
+        x.rule(0, seed % 3);
+        if (seed % 4 == 0) {
+            Tools.read(x, "burn o*8+s-w*w");
+        }
+        x.nights(seed);
+        return x;
+    }
+
+    private static LampOrder walked(LampOrder x, int n) {
+        for (int left = n; left > 0; left -= 100) {
+            x.nights(Math.min(left, 100));
+        }
+        return x;
+    }
+
+    private static void behind(LampOrder x, int seed) {
         for (int n : new int[] {0, 1, 2, 17, 100}) {
-            int[] thought = {x.behind(n, 0), x.behind(n, 1), x.behind(n, 2), x.behind(n, 3)};
-            if (n > 0) {
-                x.nights(n);
-            }
+            LampOrder y = walked(made(seed), n);
             for (int what = 0; what < 3; what++) {
-                due.is("16: behind(" + n + ", " + what + ")", thought[what], x.street(what));
+                due.is("16: behind(" + n + ", " + what + ")", x.behind(n, what), y.street(what));
             }
-            due.is("16: behind(" + n + ", 3)", thought[3], x.order(0));
-            x.back();
+            due.is("16: behind(" + n + ", 3)", x.behind(n, 3), y.order(0));
         }
     }
 
@@ -57,72 +67,65 @@ public final class ThoughtTest {
         return s.toString();
     }
 
-    private static void round(LampOrder x) {
+    private static void round(LampOrder x, int seed) {
         String line = line(x);
-        int thought = x.round();
         int found = NONE;
         for (int n = 1; n <= 200 && found == NONE; n++) {
-            x.nights(1);
-            if (line(x).equals(line)) {
+            if (line(walked(made(seed), n)).equals(line)) {
                 found = n;
             }
         }
-        due.is("17: round()", thought, found);
-        x.back();
+        due.is("17: round()", x.round(), found);
     }
 
-    private static void first(LampOrder x) {
+    private static void first(LampOrder x, int seed) {
         for (int lamp = 0; lamp < x.count(0); lamp++) {
             for (int n : new int[] {1, 4, 20}) {
-                int thought = x.first(lamp, n);
                 int found = NONE;
                 for (int poured = 0; poured < 100 && found == NONE; poured++) {
-                    x.set(lamp, 3, poured);
-                    x.nights(n);
-                    if (x.order(0) == lamp) {
+                    LampOrder y = made(seed);
+                    y.set(lamp, 3, poured);
+                    if (walked(y, n).order(0) == lamp) {
                         found = poured;
                     }
-                    x.back();
                 }
-                due.is("18: first(" + lamp + ", " + n + ")", thought, found);
+                due.is("18: first(" + lamp + ", " + n + ")", x.first(lamp, n), found);
             }
         }
     }
 
-    private static void leastLaw(LampOrder x) {
+    private static void leastLaw(LampOrder x, int seed) {
         for (int n : new int[] {1, 9, 60}) {
             int least = Integer.MAX_VALUE;
             int best = -1;
             for (int law = 0; law < 3; law++) {
-                x.rule(0, law);
-                x.nights(n);
-                if (x.street(0) < least) {
-                    least = x.street(0);
+                LampOrder y = made(seed);
+                y.rule(0, law);
+                int minutes = walked(y, n).street(0);
+                if (minutes < least) {
+                    least = minutes;
                     best = law;
                 }
-                x.back();
             }
             due.is("19: leastLaw(" + n + ", 0)", x.leastLaw(n, 0), best);
             due.is("19: leastLaw(" + n + ", 1)", x.leastLaw(n, 1), least);
         }
     }
 
-    private static void last(LampOrder x) {
+    private static void last(LampOrder x, int seed) {
         for (int n : new int[] {1, 9, 60}) {
-            int thought = x.last(n, 0);
-            int often = x.last(n, 1);
+            LampOrder y = made(seed);
             int[] counts = new int[10];
             for (int i = 0; i < n; i++) {
-                counts[x.order(x.count(0) - 1)]++;
-                x.nights(1);
+                counts[y.order(y.count(0) - 1)]++;
+                y.nights(1);
             }
-            x.back();
             int best = 0;
             for (int lamp = 1; lamp < 10; lamp++) {
                 best = counts[lamp] > counts[best] ? lamp : best;
             }
-            due.is("21: last(" + n + ", 0)", thought, best);
-            due.is("21: last(" + n + ", 1)", often, counts[best]);
+            due.is("21: last(" + n + ", 0)", x.last(n, 0), best);
+            due.is("21: last(" + n + ", 1)", x.last(n, 1), counts[best]);
         }
     }
 
@@ -136,17 +139,17 @@ public final class ThoughtTest {
             int least = Integer.MAX_VALUE;
             int best = -1;
             for (int oil = 0; oil < 100; oil++) {
-                x.set(lamp, 2, oil);
+                LampOrder y = made(seed);
+                y.set(lamp, 2, oil);
                 int together = 0;
-                for (int k = 0; k < row.length; k++) {
-                    x.nights(1);
-                    together += row[k] == NONE ? 0 : Math.abs(row[k] - x.told(lamp, 4));
+                for (int number : row) {
+                    y.nights(1);
+                    together += number == NONE ? 0 : Math.abs(number - y.told(lamp, 4));
                 }
                 if (together < least) {
                     least = together;
                     best = oil;
                 }
-                x.back();
             }
             due.is("22: oiled(0, " + lamp + ", 0)", x.oiled(0, lamp, 0), best);
             due.is("22: oiled(0, " + lamp + ", 1)", x.oiled(0, lamp, 1), least);

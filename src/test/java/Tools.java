@@ -19,14 +19,23 @@ final class Tools {
         return s.toString();
     }
 
+    /** A TEXT's bytes as the numbers that feed them, with bytes of 0 behind its end. */
+    static int[][] threes(String text) {
+        byte[] bytes = text.getBytes(StandardCharsets.ISO_8859_1);
+        int[][] threes = new int[(bytes.length + 11) / 12][];
+        ByteBuffer padded = ByteBuffer.wrap(Arrays.copyOf(bytes, 12 * threes.length));
+        for (int i = 0; i < threes.length; i++) {
+            threes[i] = new int[] {padded.getInt(), padded.getInt(), padded.getInt()};
+        }
+        return threes;
+    }
+
     /** Puts a TEXT on an empty TAPE, and has it read. */
     static int read(LampOrder x, String text) {
-        byte[] bytes = text.getBytes(StandardCharsets.ISO_8859_1);
-        ByteBuffer padded = ByteBuffer.wrap(Arrays.copyOf(bytes, (bytes.length + 11) / 12 * 12));
-        while (padded.hasRemaining()) {
-            x.feed(padded.getInt(), padded.getInt(), padded.getInt());
+        for (int[] three : threes(text)) {
+            x.feed(three[0], three[1], three[2]);
         }
-        x.trim(bytes.length);
+        x.trim(text.length());
         return x.text();
     }
 }
