@@ -39,12 +39,12 @@ public final class RowsTest {
     }
 
     private static int[] nightsTold(LampOrder x, int n) {
-        x.keep();
+        int lamps = x.count(0);
         int[] rows = new int[2 * n];
         for (int i = 0; i < n; i++) {
             x.nights(1);
             rows[2 * i] = x.street(0);
-            for (int lamp = 0; lamp < x.count(0); lamp++) {
+            for (int lamp = 0; lamp < lamps; lamp++) {
                 rows[2 * i + 1] += x.told(lamp, 4);
             }
         }
@@ -58,14 +58,26 @@ public final class RowsTest {
         return x.check(n);
     }
 
-    private static void check() {
+    private static LampOrder kept() {
         LampOrder x = new LampOrder();
         x.deal(7);
         x.nights(5);
-        int[] rows = nightsTold(x, 30);
+        x.keep();
+        return x;
+    }
+
+    /** The street has gone on, but THE IMAGE stays. */
+    private static LampOrder goneOn() {
+        LampOrder x = kept();
+        x.nights(30);
         x.rule(0, 1);
         x.deal(3);
-        // The street has gone on, but THE IMAGE stays.
+        return x;
+    }
+
+    private static void check() {
+        int[] rows = nightsTold(kept(), 30);
+        LampOrder x = goneOn();
         due.is("40: thirty nights", checked(x, 30, 60, rows), 0);
         due.is("40: none wait then", x.count(6), 0);
         due.is("40: one night", checked(x, 1, 2, rows), 0);
@@ -76,7 +88,7 @@ public final class RowsTest {
         for (int wrong : new int[] {0, 1, 17, 58, 59}) {
             int[] other = rows.clone();
             other[wrong]++;
-            due.is("40: wrong at " + wrong, checked(x, 30, 60, other), 1 + wrong);
+            due.is("40: wrong at " + wrong, checked(goneOn(), 30, 60, other), 1 + wrong);
         }
         due.is("40: nothing changes", x.count(1), 35);
         x.back();

@@ -1,7 +1,6 @@
 import java.lang.reflect.Method;
 import java.util.ArrayList;
 import java.util.Arrays;
-import java.util.HashMap;
 import java.util.List;
 import java.util.Map;
 import java.util.Set;
@@ -11,7 +10,8 @@ import java.util.regex.Pattern;
 /**
  * Calls on a new object, written as a text with the answers that are due: "lamp(0, 5, 6, 7) = 0; 3 x seed(4); way() = 6".
  * Besides the calls of the face there are: put "fee 1" (feed and trim, onto an empty TAPE), read "fee 1" (text, too, whose answer
- * it is), row(sheet, sort, numbers) (sheet and marks), and scene (lamps, an image, sheets, slots, a tape, numbers that wait).
+ * it is), row(sheet, sort, numbers) (sheet and marks), scene (lamps, an image, sheets, slots, a tape, numbers that wait), and
+ * imageless (the same without the image).
  *
  * Each call that may change nothing, since it only tells or since it is refused, is also made on one of two new objects that
  * have come to the same place: all that can be asked of both must be the same then.
@@ -20,16 +20,18 @@ final class Script {
     /** Calls that only tell: they may never change anything. */
     private static final Set<String> TELLS = Set.of("told", "drinks", "as", "order", "way", "dark", "street", "behind", "round", "first",
         "leastLaw", "spared", "last", "oiled", "fee", "fine", "textTold", "why", "reads", "ask", "item", "rest", "count");
-    private static final Map<String, Integer> NUMBERS = new HashMap<>(Map.of("BAD", LampOrder.BAD, "NO", LampOrder.NO, "FULL", LampOrder.FULL,
+    private static final Map<String, Integer> NUMBERS = Map.of("BAD", LampOrder.BAD, "NO", LampOrder.NO, "FULL", LampOrder.FULL,
         "NONE", LampOrder.NONE, "NOTHING", LampOrder.NOTHING, "KIND", LampOrder.KIND, "INDEX", LampOrder.INDEX, "SIZE", LampOrder.SIZE,
-        "MIN", Integer.MIN_VALUE, "MAX", Integer.MAX_VALUE));
+        "MIN", Integer.MIN_VALUE, "MAX", Integer.MAX_VALUE);
     private static final Set<Integer> REFUSALS = Set.of(LampOrder.BAD, LampOrder.NO, LampOrder.FULL, LampOrder.NOTHING, LampOrder.KIND,
         LampOrder.INDEX, LampOrder.SIZE);
-    private static final Pattern CALL = Pattern.compile("(?:(\\d+) x )?(?:(\\w+)\\(([^)]*)\\)|(read|put) \"([^\"]*)\"|(scene))(?: = (-?\\w+))?");
+    private static final Pattern CALL = Pattern.compile(
+        "(?:(\\d+) x )?(?:(\\w+)\\(([^)]*)\\)|(read|put) \"([^\"]*)\"|(scene|imageless))(?: = (-?\\w+))?");
     private static final int CALLS_MOST = 512;
 
     /** The street of THE IMAGE is worked out by hand in RowsTest: the four numbers that wait are its first two nights. */
-    private static final String SCENE = "lamp(0, 10, 40, 20); lamp(5, 10, 0, 0); keep(); tell(12); tell(931); tell(24); tell(863); "
+    private static final String FIRST_LAMPS = "lamp(0, 10, 40, 20); lamp(5, 10, 0, 0); ";
+    private static final String THE_REST = "tell(12); tell(931); tell(24); tell(863); "
         + "lamp(3, 30, 25, 9); lamp(4, 20, 60, 15); lamp(1, 45, 7, 3); nights(3); rule(0, 1); rule(2, 500); rule(1, 7); set(2, 2, 0); "
         + "read \"burn o*9-w+s\"; read \"fee w*2-n\"; read \"fine p+d*7\"; "
         + "row(0, 0, 5, -7, 300); row(1, 1, 4, NONE, 99999, 2); sheet(2, 1, 0); "
@@ -83,7 +85,9 @@ final class Script {
     private void addOne(Matcher m) {
         Integer due = m.group(7) == null ? null : Integer.valueOf(number(m.group(7)));
         if (m.group(6) != null) {
-            addAll(SCENE);
+            addAll(FIRST_LAMPS);
+            addAll(m.group(6).equals("scene") ? "keep()" : "");
+            addAll(THE_REST);
         } else if (m.group(4) != null) {
             addPut(m.group(5));
             if (m.group(4).equals("read")) {
@@ -160,10 +164,11 @@ final class Script {
             at++;
         }
         int from = Math.max(0, at - 40);
-        return ", but: .." + before.substring(from, Math.min(at + 40, before.length())) + ".. / .." + after.substring(from, Math.min(at + 40, after.length())) + "..";
+        String was = before.substring(from, Math.min(at + 40, before.length()));
+        return ", but: .." + was + ".. / .." + after.substring(from, Math.min(at + 40, after.length())) + "..";
     }
 
-    /** All that can be asked behind so many calls, but what the last of them uses up as the document tells. Each part has an object of its own. */
+    /** All that can be asked behind so many calls, but what a call of this name uses up. Each part has an object of its own. */
     private String pictureBehind(int many, String call) {
         boolean tape = !call.equals("text");
         boolean waiting = !call.equals("check");
