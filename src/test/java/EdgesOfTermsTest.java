@@ -268,6 +268,10 @@ public final class EdgesOfTermsTest {
         edge("LAST: of several the least",
             "lamp(5, 5, 5, 5); lamp(0, 5, 5, 5); last(1, 0) = 1; last(1, 1) = 1; last(2, 0) = 0; last(2, 1) = 1; last(3, 1) = 2",
             "last(60, 1) = 59");
+        edge("LAST of ten",
+            "9 x lamp(0, 5, 0, 0); lamp(5, 5, 0, 0); last(60, 0) = 9; last(60, 1) = 60; turns(9, 0); turns(0, 5); last(1, 0) = 9",
+            "last(2, 0) = 0; last(60, 0) = 0; last(60, 1) = 59");
+        edge("SPARED of ten", "9 x lamp(0, 5, 0, 0); lamp(5, 50, 0, 0); way() = 60; spared(1, 0) = 9; spared(60, 1) = 840");
         edge("LAST: the only one", "lamp(0, 5, 5, 5); last(60, 0) = 0; last(60, 1) = 60");
     }
 
@@ -298,6 +302,9 @@ public final class EdgesOfTermsTest {
         edge("TEXTS, 14 at most, numbered from 0",
             "read \"fee 1\" = 0; 12 x read \"fee 2\"; read \"fee 3\" = 13; read \"fee 4\" = FULL; count(5) = 14; fee() = 3; why(1) = 13",
             "textTold(14, 0) = BAD");
+        edge("fourteen TEXTS are kept, and thought with",
+            "lamp(0, 10, 40, 20); 13 x read \"fee 1\"; read \"burn 100\" = 13; behind(1, 2) = 50; keep() = 1; nights(1)",
+            "told(0, 4) = 111; back() = 1; count(5) = 14; told(0, 7) = 100; tell(11); tell(111); check(1) = 0");
         edge("THE TAPE has 96 bytes at most",
             "7 x feed(0, 0, 0); feed(0, 0, 0) = 96; feed(0, 0, 0) = FULL; count(7) = 96; trim(85) = 85; feed(0, 0, 0) = FULL",
             "trim(84) = 84; feed(0, 0, 0) = 96");
@@ -354,6 +361,9 @@ public final class EdgesOfTermsTest {
         edge("FAULT: where a sign is due",
             "read \"fee 1 1\" = -106; read \"fee n(1)\" = -105; read \"fee (1)(1)\" = -107; read \"fee (1)n\" = -107",
             "read \"fee 1!\" = -105; read \"fee 1!2\" = -105; read \"fee 1,2\" = -105; read \"fee 1)\" = -105; read \"fee (1))\" = -107");
+        edge("FAULT: where a sign is due, behind a PIECE within others",
+            "read \"fee 1+2 3\" = -108; read \"fee 1+2(3)\" = -107; read \"fee !1 2\" = -107; read \"fee !1(2)\" = -106",
+            "read \"fee ((1)(2))\" = -108; read \"fee (1 2)\" = -107; read \"fee 1*2!\" = -107");
         edge("FAULT: one test a SUM at most",
             "read \"fee 1<2<3\" = -107; read \"fee 1=2>3\" = -107; read \"fee 1<2+3=4\" = -109; read \"fee (1<2<3)\" = -108",
             "read \"fee (1<2)<3\" = 0; read \"fee 1<2&2<3|3<4\" = 1");
