@@ -265,6 +265,11 @@ public final class EdgesOfTermsTest {
         edge("SPARED: the only one", "lamp(0, 9, 0, 0); nights(1) = 10; spared(60, 0) = 0; spared(60, 1) = 10");
         // The one that is spared is not on the way: 11 minutes each night, whichever of them is out first.
         edge("SPARED: not gone to", "lamp(0, 90, 5, 5); lamp(0, 10, 5, 5); spared(1, 0) = 0; spared(1, 1) = 11; spared(60, 1) = 660");
+        // All go out at dawn, so that by their numbers 87 is walked each night: 1, 28, 57, 1. Without one of them lamp 2 or 3 (GLAZED)
+        // is lit a minute sooner, goes out ahead of dawn, and the far end is first: 370, 590, 368 or 478 in three nights.
+        edge("SPARED: one of the LAMPS, even where less is walked to all of them",
+            "lamp(5, 0, 0, 0); lamp(5, 27, 0, 0); lamp(3, 83, 6, 33); lamp(3, 83, 7, 5); set(2, 4, 9); rule(2, 147)",
+            "behind(3, 0) = 261; spared(3, 0) = 2; spared(3, 1) = 368; spared(1, 0) = 0; spared(1, 1) = 86");
         edge("LAST: of several the least",
             "lamp(5, 5, 5, 5); lamp(0, 5, 5, 5); last(1, 0) = 1; last(1, 1) = 1; last(2, 0) = 0; last(2, 1) = 1; last(3, 1) = 2",
             "last(60, 1) = 59");
